@@ -343,7 +343,7 @@ public final class EightMinutes {
         return pairing.got[one];
     }
 
-    /** Puts the row into holding; false if it is not one number for each left one, none twice. */
+    /** Puts the row into holding; false if it is not one number for each left one, no right one twice. */
     private boolean holdAsTheRowTells() {
         if (inRow != told.people[LEFT]) {
             return false;
@@ -369,9 +369,9 @@ public final class EightMinutes {
         return one < SIDE ? LEFT : RIGHT;
     }
 
-    /** The one among the bits of a side. */
+    /** The one's bit among the bits of his side. */
     private static int bitOf(int one) {
-        return 1 << one % SIDE;
+        return 1 << (one % SIDE);
     }
 
     /** The first number (0 or 5) of the other side than the one's. */
@@ -814,13 +814,14 @@ public final class EightMinutes {
             return best;
         }
 
-        /** Lets the side ask until none is left who is free and may ask: got then holds whom each gets. */
+        /** Lets the side ask until nobody free has anybody left to ask: got then holds whom each gets. */
         void askInTurn(Told told, int askingSide) {
             for (int one = 0; one < ALL; one++) {
                 got[one] = NONE;
                 boolean mayAsk = told.isThere(one) && sideOf(one) == askingSide;
                 unasked[one] = mayAsk ? (1 << told.howManyFacing(one)) - 1 : 0;
             }
+            // Nobody asks the same one twice.
             int mostAsks = SIDE * SIDE;
             for (int asks = 0; asks < mostAsks; asks++) {
                 int asker = firstWhoWillAsk();
@@ -860,7 +861,7 @@ public final class EightMinutes {
         private static boolean isLikedBefore(Told told, int one, int first, int second) {
             int likesFirst = told.likes(one, first);
             int likesSecond = told.likes(one, second);
-            return likesFirst > likesSecond || likesFirst == likesSecond && first < second;
+            return likesFirst > likesSecond || (likesFirst == likesSecond && first < second);
         }
     }
 
@@ -901,7 +902,7 @@ public final class EightMinutes {
             return ways;
         }
 
-        /** A code's digits, in as many as can be chosen, are whom each gets; false if one comes twice. */
+        /** The code's digits, to the base of how many there are to choose, are whom each gets; false if one comes twice. */
         private boolean giveByCode(Told told, int side, int code) {
             letAllGo();
             int choices = told.people[RIGHT - side];

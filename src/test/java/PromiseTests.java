@@ -454,6 +454,13 @@ public final class PromiseTests {
         EightMinutes y = Due.told("ls0;ls0;rm0;rm0;k059;k060;k159;k160;o20;");
         Due.is("nobody shaded by STEP 2", y.shaded(), 0);
         Due.is("all MEET all, though one is shaded", y.bestOrder(), 10);
+        // A HOPING one who never MEETS the only other is not shaded: still, all that can must MEET.
+        Due.is("0 must MEET 5", Due.told("lh0;lm0;rm0;o21;").bestOrder(), 10);
+        EightMinutes last = Due.told("ls0;rm0;rm0;rm0;rm0;rm0;", "k056;k067;k078;k089;k095;");
+        Due.is("from the last on", last.bestOrder(), 14);
+        last.like(0, 9, 9);
+        last.like(0, 5, 0);
+        Due.is("from the first on, by another liking", last.bestOrder(), 10);
         EightMinutes z = Due.told("lw0;lt0;lm0;lm0;lm0;", "rw0;o10;");
         int best = z.bestOrder();
         int least = 1000;
@@ -495,6 +502,12 @@ public final class PromiseTests {
         Due.is("chain", chain.ranks(0), 6);
         Due.is("chain", chain.ranks(1), 5);
         Due.is("chain", chain.ranks(2), 7);
+        // 0 is sent away by 5 and asks 6, whom 1 has.
+        EightMinutes late = Due.told("lm0;lm0;lm0;rm0;rm0;rm0;", "k059;k068;k169;k259;k500;k529;");
+        Due.is("liked as much, the lesser number is kept", late.ranks(6), 0);
+        late.like(6, 1, 6);
+        Due.is("liked less, the lesser number is sent away", late.ranks(6), 1);
+        Due.is("and gets another", late.ranks(0), 7);
     }
 
     // Promise 17
@@ -522,6 +535,8 @@ public final class PromiseTests {
         Due.is("nobody", new EightMinutes().firm(), 1);
         Due.is("one SIDE only", Due.told("lm0;lm0;").firm(), 1);
         Due.is("the other only", Due.told("rm0;rm0;").firm(), 1);
+        Due.is("one and one", Due.told("lm0;rm0;").firm(), 1);
+        Due.is("one and five", Due.told("lm0;rm0;rm0;rm0;rm0;rm0;").firm(), 5);
         Due.is("crossed", Due.told(CROSSED).firm(), 2);
         Due.is("all alike, 2 of 3", Due.told("lm0;lm0;rm0;rm0;rm0;").firm(), 6);
         Due.is("all alike, 3 of 2", Due.told("lm0;lm0;lm0;rm0;rm0;").firm(), 6);
@@ -581,6 +596,18 @@ public final class PromiseTests {
         rather(x, -9, 1, 0);
         x.like(5, 1, 8);
         rather(x, 0, 1, 0);
+        EightMinutes few = Due.told("lm0;rm0;rm0;rm0;");
+        rather(few, -9, 2);
+        rather(few, -3, 2, 1);
+        rather(few, -3, 3);
+        few.like(0, 5, 6);
+        rather(few, 0, 2);
+        EightMinutes many = Due.told("lm0;lm0;lm0;rm0;");
+        rather(many, -9, 9, 9, 0);
+        rather(many, -3, 0);
+        rather(many, -3, 9, 9, 1);
+        many.like(5, 1, 6);
+        rather(many, 10, 9, 9, 0);
         EightMinutes most = Due.told("lm0;lm0;lm0;lm0;lm0;", "rm0;rm0;rm0;rm0;rm0;", "k490;k940;");
         rather(most, 44, 0, 1, 2, 3, 9);
         rather(most, -9, 0, 1, 2, 3, 4);
@@ -749,6 +776,8 @@ public final class PromiseTests {
         Due.is("count(-1)", x.count(-1), -9);
         Due.is("count(least)", x.count(Integer.MIN_VALUE), -9);
         Due.is("count(greatest)", x.count(Integer.MAX_VALUE), -9);
+        Due.is("all GAPS of LEFT ones", Due.told("lm0;lm0;lm0;rm0;").count(6), 6);
+        Due.is("all GAPS of one SIDE", Due.told("lm0;lm0;lm0;").count(6), 9);
         x.order(4, 0);
         Due.is("all GAPS of a STEP by which two are never met", x.count(6), 8);
         Due.is("no refusal for another what", x.count(12), 0);
