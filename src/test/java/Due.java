@@ -2,6 +2,8 @@
 final class Due {
     private static int checks = 0;
     private static int wrong = 0;
+    private static int edges = 0;
+    private static String where = "";
 
     private Due() {
     }
@@ -10,7 +12,7 @@ final class Due {
         checks++;
         if (got != want) {
             wrong++;
-            System.out.println(call + " answered " + got + ", due is " + want);
+            System.out.println(where + call + " answered " + got + ", due is " + want);
         }
     }
 
@@ -18,16 +20,66 @@ final class Due {
         checks++;
         if (!is) {
             wrong++;
-            System.out.println("does not hold: " + what);
+            System.out.println(where + "does not hold: " + what);
         }
+    }
+
+    /** The test of one sentence that names a boundary case: what is wrong in it is told with the sentence. */
+    static void edge(String sentence, Runnable test) {
+        edges++;
+        int checksAhead = checks;
+        where = "\"" + sentence + "\": ";
+        test.run();
+        holds("something is looked at", checks > checksAhead);
+        where = "";
     }
 
     /** Gives all letters of the text to x; answers what evening() does. */
     static int tell(EightMinutes x, String text) {
+        write(x, text);
+        return x.evening();
+    }
+
+    /** Gives all letters of the text to x, but no evening is made of them. */
+    static void write(EightMinutes x, String text) {
         for (int i = 0; i < text.length(); i++) {
             x.letter(text.charAt(i));
         }
-        return x.evening();
+    }
+
+    /** The ROW becomes these numbers. */
+    static void row(EightMinutes x, int... numbers) {
+        x.clear();
+        for (int number : numbers) {
+            x.row(number);
+        }
+    }
+
+    /** How many of REFUSALS -1, -2, -3, -4, -5, -6 there were. */
+    static void refusals(EightMinutes x, int... due) {
+        for (int i = 0; i < due.length; i++) {
+            is("REFUSALS " + (-1 - i), x.count(11 + i), due[i]);
+        }
+    }
+
+    /** All that can be seen of x without a refusal (by some 150 calls at most) in one text. */
+    static String look(EightMinutes x) {
+        StringBuilder seen = new StringBuilder();
+        for (int what = 0; what <= 8; what++) {
+            seen.append(x.count(what)).append(' ');
+        }
+        for (int one = 0; one < 10; one++) {
+            if (one % 5 >= x.count(one / 5)) {
+                continue;
+            }
+            seen.append('(').append(x.person(one, 0)).append(' ').append(x.person(one, 1)).append(':');
+            int others = x.count(1 - one / 5);
+            for (int i = 0; i < others; i++) {
+                seen.append(' ').append(x.liking(one, one < 5 ? 5 + i : i));
+            }
+            seen.append(')');
+        }
+        return seen.toString();
     }
 
     /** A new object to which all texts have been told, each an evening without fault. */
@@ -40,7 +92,8 @@ final class Due {
     }
 
     static void end() {
-        System.out.println(checks + " checks, " + wrong + " wrong");
+        String ofEdges = edges == 0 ? "" : " in " + edges + " edges";
+        System.out.println(checks + " checks" + ofEdges + ", " + wrong + " wrong");
         if (wrong != 0) {
             System.exit(1);
         }
