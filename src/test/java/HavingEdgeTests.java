@@ -418,6 +418,11 @@ public final class HavingEdgeTests {
         String slips = "lm6;lm9;rm0;rm6;k069;k607;";
         Due.edge("JUDGED: of LEFT ones by numbers, then of RIGHT ones: -9, if all are so", () ->
             judge(Due.told(slips), -9, 2, 0, 3, 1));
+        Due.edge("JUDGED: of SIDES that are not as many", () -> {
+            judge(Due.told("lm6;rm0;rm6;rm0;k069;"), -9, 2, 1, 0, 1);
+            judge(Due.told("lm0;lm6;lm0;rm6;k519;"), -9, 1, 0, 1, 2);
+            judge(Due.told("rm0;lm0;lm0;lm0;lm0;"), 4, 1, 1, 1, 1, 14);
+        });
         Due.edge("JUDGED: the first that is not so", () -> {
             EightMinutes x = Due.told(slips);
             judge(x, 0, 3, 0, 3, 1);
@@ -437,6 +442,8 @@ public final class HavingEdgeTests {
             EightMinutes x = Due.told(slips);
             judge(x, 4, 2, 0, 3, 1, 0);
             judge(x, 4, 2, 0, 3, 1, 0, 0, 0, 0, 0, 31);
+            judge(Due.told("lm0;", FIVE_RIGHT), 6, 31, 1, 1, 1, 1, 1, 0);
+            judge(Due.told(FIVE_LEFT, "rm0;"), 6, 1, 1, 1, 1, 1, 31, 0);
         });
         Due.edge("JUDGED: one that is not so is told ahead of too short, of too long", () -> {
             EightMinutes x = Due.told(slips);
@@ -521,6 +528,20 @@ public final class HavingEdgeTests {
             one.law(2);
             Due.is("ONE", one.lots(20, 5), 20);
         });
+        Due.edge("LOTS: PAIRS by the LAW and by LIKINGS drawn", () -> {
+            for (int seed = -20; seed < 20; seed++) {
+                int[] drawn = drawn(seed, 8);
+                int pairs = 0;
+                for (int i = 0; i < 4; i++) {
+                    int left = i / 2;
+                    int right = i % 2;
+                    boolean leftLikesMost = right == (drawn[2 * left + 1] > drawn[2 * left] ? 1 : 0);
+                    boolean rightLikesMost = left == (drawn[4 + 2 * right + 1] > drawn[4 + 2 * right] ? 1 : 0);
+                    pairs += leftLikesMost && rightLikesMost ? 1 : 0;
+                }
+                Due.is("lots(1, " + seed + ") by ONE", Due.told("lm0;lm0;rm0;rm0;w2;").lots(1, seed), pairs);
+            }
+        });
         Due.edge("LOTS: (in mind)", () -> {
             EightMinutes x = Due.told("lw5;ls5;rh5;rm5;rt5;", "k053;k507;w2;o21;");
             String ahead = Due.look(x);
@@ -537,6 +558,17 @@ public final class HavingEdgeTests {
     private static int draw(int z) {
         long withoutSign = z < 0 ? z + (1L << 31) : z;
         return (int) (withoutSign / 256 % 10);
+    }
+
+    /** So many DRAWS from a seed on. */
+    private static int[] drawn(int seed, int many) {
+        int[] drawn = new int[many];
+        int z = seed;
+        for (int i = 0; i < many; i++) {
+            z = next(z);
+            drawn[i] = draw(z);
+        }
+        return drawn;
     }
 
     /** Of one LEFT and one RIGHT one: the DRAWS are the BARS up to which they are a PAIR. */
@@ -566,12 +598,7 @@ public final class HavingEdgeTests {
         });
         Due.edge("LOTS: LIKINGS of LEFT ones by numbers, then of RIGHT ones (each of all of the other SIDE that there are)", () -> {
             for (int seed = -20; seed < 20; seed++) {
-                int[] drawn = new int[12];
-                int z = seed;
-                for (int i = 0; i < drawn.length; i++) {
-                    z = next(z);
-                    drawn[i] = draw(z);
-                }
+                int[] drawn = drawn(seed, 12);
                 int pairs = 0;
                 for (int i = 0; i < 6; i++) {
                     int left = i / 3;
@@ -603,6 +630,7 @@ public final class HavingEdgeTests {
             Due.is("on()", x.on(), 0);
             Due.is("LEFT and RIGHT", x.count(0) + x.count(1), 0);
             Due.is("ROUNDS", x.count(2), 0);
+            Due.is("image() again", x.image(), 0);
         });
         Due.edge("THE IMAGE of all whom there is room for", () -> {
             EightMinutes x = Due.told(FIVE_LEFT, FIVE_RIGHT);

@@ -417,6 +417,14 @@ public final class MeetingEdgeTests {
         });
         Due.edge("ONE: nobody, if there are no YESES", () ->
             pairs(Due.told("lm9;rm0;"), 2, 0, 0, 0));
+        Due.edge("LIKING becomes v: by all LAWS at once", () -> {
+            EightMinutes x = Due.told("lm0;" + FIVE_RIGHT);
+            x.like(0, 9, 9);
+            pairs(x, 1, 0, 0b10011, 3);
+            pairs(x, 2, 0, 0b10000, 1);
+            pairs(x, 3, 0, 0b10000, 1);
+            Due.is("glad(2, 1)", x.glad(2, 1), 14);
+        });
     }
 
     private static void byRanks() {
@@ -570,6 +578,7 @@ public final class MeetingEdgeTests {
             x.order(1, 0);
             Due.is("SHADED by 10", x.shaded(), 1);
             Due.is("bestOrder()", x.bestOrder(), 10);
+            Due.is("the only one on the LEFT", Due.told("lm0;rh0;rm0;o21;").bestOrder(), 10);
             // By 41 the one on the RIGHT would MEET only a MEETER.
             Due.is("one of the RIGHT, LEFT ones HOPING", Due.told("lh0;lh0;lm0;lm0;rm0;").bestOrder(), 10);
         });
