@@ -358,6 +358,16 @@ public final class MeetingEdgeTests {
             pairs(x, 0, 6, 0, 1);
             pairs(x, 0, 7, 0, 1);
         });
+        Due.edge("BOTH: not, if but the LEFT or but the RIGHT one SAYS YES, the first and the last of them", () -> {
+            EightMinutes left = Due.told("lm9;lm0;lm0;lm0;lm9;", FIVE_RIGHT);
+            pairs(left, 0, 0, 0, 15);
+            pairs(left, 0, 5, 0b01110, 15);
+            pairs(left, 0, 9, 0b01110, 15);
+            EightMinutes right = Due.told(FIVE_LEFT, "rm9;rm0;rm0;rm0;rm9;");
+            pairs(right, 0, 5, 0, 15);
+            pairs(right, 0, 0, 0b01110, 15);
+            pairs(right, 0, 4, 0b01110, 15);
+        });
         Due.edge("BOTH: as many as can be", () -> {
             EightMinutes x = Due.told(FIVE_LEFT, FIVE_RIGHT);
             pairs(x, 0, 4, 0b11111, 25);
